@@ -1,5 +1,3 @@
-import java.util.Arrays;
-
 /**
  * A desk for real algebraic numbers. Each slot's number is kept as a root of a polynomial
  * with whole coefficients and no double roots, together with an interval in which that
@@ -18,7 +16,7 @@ public final class RootDesk {
     private static final int ROOT_SIZE = 10;
     private static final int MOST_PLACES = 30;
 
-    /** More binary places than two different numbers of this desk can agree in (some 1,650). */
+    /** Far more binary places than are ever needed: two different numbers of a desk agree in some 1,620 at most. */
     private static final int ENOUGH_BITS = 20000;
 
     private final int[] coefficients = new int[TOP + 1];
@@ -161,7 +159,7 @@ public final class RootDesk {
         if (tooGreat(x, y)) {
             return false;
         }
-        settle(target, maker.sum(x, y), x, y);
+        settle(target, maker.join(x, y, true), x, y);
         return true;
     }
 
@@ -172,7 +170,7 @@ public final class RootDesk {
         if (tooGreat(x, y)) {
             return false;
         }
-        settle(target, maker.sum(x, maker.opposite(y)), x, y);
+        settle(target, maker.join(x, maker.opposite(y), true), x, y);
         return true;
     }
 
@@ -183,7 +181,7 @@ public final class RootDesk {
         if (tooGreat(x, y)) {
             return false;
         }
-        settle(target, maker.product(x, y), x, y);
+        settle(target, maker.join(x, y, false), x, y);
         return true;
     }
 
@@ -197,7 +195,7 @@ public final class RootDesk {
         if (tooGreat(x, y)) {
             return false;
         }
-        settle(target, maker.product(x, maker.inverse(y)), x, y);
+        settle(target, maker.join(x, maker.inverse(y), false), x, y);
         return true;
     }
 
@@ -327,9 +325,11 @@ public final class RootDesk {
                 return;
             }
             if (limbs.length < o.used) {
-                limbs = new int[grown(o.used)];
+                limbs = new int[o.used + o.used / 2];
             }
-            System.arraycopy(o.limbs, 0, limbs, 0, o.used);
+            for (int i = 0; i < o.used; i++) {
+                limbs[i] = o.limbs[i];
+            }
             used = o.used;
             signum = o.signum;
         }
@@ -381,54 +381,33 @@ public final class RootDesk {
             return i * LIMB + n;
         }
 
-        void makeRoom(int n) {
-            if (limbs.length < n) {
-                limbs = Arrays.copyOf(limbs, grown(n));
-            }
-        }
-
+        /** This becomes a + b; like minus, it may be a or b itself. */
         void plus(Big a, Big b) {
-            join(a, b, b.signum);
+            int sign = a.signum != 0 ? a.signum : b.signum;
+            if (a.signum * b.signum >= 0) {
+                addSizes(a, b, sign);
+            } else {
+                takeSizes(a, b, sign);
+            }
         }
 
         void minus(Big a, Big b) {
-            join(a, b, -b.signum);
-        }
-
-        private void join(Big a, Big b, int bSignum) {
-            int aSignum = a.signum;
-            if (bSignum == 0) {
-                assign(a);
-            } else if (aSignum == 0) {
-                assign(b);
-                signum = bSignum;
-            } else if (aSignum == bSignum) {
-                if (a.used >= b.used) {
-                    addSizes(a, b);
-                } else {
-                    addSizes(b, a);
-                }
-                signum = aSignum;
+            int sign = a.signum != 0 ? a.signum : -b.signum;
+            if (a.signum * b.signum <= 0) {
+                addSizes(a, b, sign);
             } else {
-                int c = rankSizes(a, b);
-                if (c > 0) {
-                    takeSizes(a, b);
-                } else {
-                    takeSizes(b, a);
-                }
-                signum = c > 0 ? aSignum : c < 0 ? bSignum : 0;
+                takeSizes(a, b, sign);
             }
         }
 
-        /** a has no fewer limbs than b; either may be this very number. */
-        private void addSizes(Big a, Big b) {
-            int n = a.used;
-            int m = b.used;
+        private void addSizes(Big a, Big b, int sign) {
+            int[] x = a.used >= b.used ? a.limbs : b.limbs;
+            int[] y = a.used >= b.used ? b.limbs : a.limbs;
+            int n = a.used >= b.used ? a.used : b.used;
+            int m = a.used >= b.used ? b.used : a.used;
             if (limbs.length <= n) {
-                limbs = Arrays.copyOf(limbs, grown(n + 1));
+                limbs = new int[n + n / 2 + 2];
             }
-            int[] x = a.limbs;
-            int[] y = b.limbs;
             int carry = 0;
             for (int i = 0; i < n; i++) {
                 int s = x[i] + carry + (i < m ? y[i] : 0);
@@ -437,28 +416,40 @@ public final class RootDesk {
             }
             limbs[n] = carry;
             used = n + carry;
+            signum = sign;
         }
 
-        /** a's size is not below b's; either may be this very number. */
-        private void takeSizes(Big a, Big b) {
-            int n = a.used;
-            int m = b.used;
-            if (limbs.length < n) {
-                limbs = Arrays.copyOf(limbs, grown(n));
-            }
+        /** The sign is that of a result not below 0. */
+        private void takeSizes(Big a, Big b, int sign) {
             int[] x = a.limbs;
             int[] y = b.limbs;
+            int aUsed = a.used;
+            int bUsed = b.used;
+            int n = aUsed >= bUsed ? aUsed : bUsed;
+            if (limbs.length < n) {
+                limbs = new int[n + n / 2 + 2];
+            }
             int borrow = 0;
             for (int i = 0; i < n; i++) {
-                int s = x[i] - borrow - (i < m ? y[i] : 0);
+                int s = (i < aUsed ? x[i] : 0) - (i < bUsed ? y[i] : 0) - borrow;
                 borrow = s >>> 31;
                 limbs[i] = s & MASK;
             }
+            signum = borrow == 0 ? sign : -sign;
+            int carry = borrow;
+            for (int i = 0; i < n && borrow != 0; i++) {
+                int s = MASK - limbs[i] + carry;
+                limbs[i] = s & MASK;
+                carry = s >>> LIMB;
+            }
             used = n;
-            trim();
+            while (used > 0 && limbs[used - 1] == 0) {
+                used--;
+            }
+            signum = used == 0 ? 0 : signum;
         }
 
-        /** Neither a nor b may be this very number. */
+        /** This becomes a b, and is neither of them itself. */
         void times(Big a, Big b) {
             int n = a.used;
             int m = b.used;
@@ -467,7 +458,7 @@ public final class RootDesk {
                 return;
             }
             if (limbs.length < n + m) {
-                limbs = new int[grown(n + m)];
+                limbs = new int[n + m + (n + m) / 2];
             }
             int[] x = a.limbs;
             int[] y = b.limbs;
@@ -485,31 +476,29 @@ public final class RootDesk {
                 }
                 z[i + m] = (int) carry;
             }
-            used = n + m;
+            used = z[n + m - 1] == 0 ? n + m - 1 : n + m;
             signum = a.signum * b.signum;
-            trim();
         }
 
         void timesSmall(int v) {
-            if (v == 0) {
-                clear();
-                return;
-            }
+            int[] x = limbs;
             if (limbs.length <= used) {
-                limbs = Arrays.copyOf(limbs, grown(used + 1));
+                limbs = new int[used + used / 2 + 2];
             }
-            long factor = Math.abs(v);
+            long factor = v < 0 ? -v : v;
             long carry = 0;
             for (int i = 0; i < used; i++) {
-                carry += factor * limbs[i];
+                carry += factor * x[i];
                 limbs[i] = (int) (carry & MASK);
                 carry >>>= LIMB;
             }
             limbs[used] = (int) carry;
             used += carry == 0 ? 0 : 1;
             signum = v < 0 ? -signum : signum;
+            trim();
         }
 
+        /** Multiplies by 2 to the power of n. */
         void shiftUp(int n) {
             if (signum == 0 || n <= 0) {
                 return;
@@ -517,62 +506,62 @@ public final class RootDesk {
             int whole = n / LIMB;
             int part = n % LIMB;
             int top = used + whole;
+            int[] x = limbs;
             if (limbs.length <= top) {
-                limbs = Arrays.copyOf(limbs, grown(top + 1));
+                limbs = new int[top + top / 2 + 2];
             }
             int[] z = limbs;
-            z[top] = z[used - 1] >>> LIMB - part;
+            z[top] = x[used - 1] >>> LIMB - part;
             for (int i = used - 1; i > 0; i--) {
-                z[i + whole] = z[i] << part & MASK | z[i - 1] >>> LIMB - part;
+                z[i + whole] = x[i] << part & MASK | x[i - 1] >>> LIMB - part;
             }
-            z[whole] = z[0] << part & MASK;
+            z[whole] = x[0] << part & MASK;
             for (int i = 0; i < whole; i++) {
                 z[i] = 0;
             }
-            used = top + 1;
-            trim();
+            used = z[top] == 0 ? top : top + 1;
         }
 
-        /** Divides by a power of two, rounded down. */
+        /** Divides by 2 to the power of n, rounded down. */
         void shiftDown(int n) {
             if (signum == 0 || n <= 0) {
                 return;
             }
-            boolean roundedSize = signum < 0 && lowZeros() < n;
-            int whole = Math.min(n / LIMB, used);
+            boolean awayFromZero = signum < 0 && lowZeros() < n;
+            int whole = n / LIMB;
             int part = n % LIMB;
-            int left = used - whole;
+            int left = used > whole ? used - whole : 0;
             for (int i = 0; i < left; i++) {
                 int next = i + 1 < left ? limbs[i + whole + 1] : 0;
                 limbs[i] = limbs[i + whole] >>> part | next << LIMB - part & MASK;
             }
             used = left;
             trim();
-            if (roundedSize) {
-                growSizeByOne();
-                signum = -1;
+            if (awayFromZero) {
+                growByOne();
             }
         }
 
-        /** Divides by a power of two, rounded up. */
+        /** Divides by 2 to the power of n, rounded up. */
         void shiftDownUp(int n) {
             flip();
             shiftDown(n);
             flip();
         }
 
-        private void growSizeByOne() {
-            if (limbs.length <= used) {
-                limbs = Arrays.copyOf(limbs, grown(used + 1));
-            }
-            limbs[used] = 0;
+        /** Takes one from a number that is 0 or less and has just been made shorter. */
+        private void growByOne() {
             int i = 0;
             while (i < used && limbs[i] == MASK) {
                 limbs[i] = 0;
                 i++;
             }
+            if (i == used) {
+                limbs[i] = 0;
+                used++;
+            }
             limbs[i]++;
-            used = Math.max(used, i + 1);
+            signum = -1;
         }
 
         /** Divides the size by d, rounded down: the rest. */
@@ -586,7 +575,10 @@ public final class RootDesk {
                 limbs[i] = (int) (rest / d);
                 rest %= d;
             }
-            trim();
+            if (used > 0 && limbs[used - 1] == 0) {
+                used--;
+            }
+            signum = used == 0 ? 0 : signum;
             return (int) rest;
         }
 
@@ -647,20 +639,15 @@ public final class RootDesk {
             }
             return n + rest;
         }
-
-        /** Room to spare, so that a number that grows little by little is seldom moved. */
-        private static int grown(int n) {
-            return n + n / 2 + 2;
-        }
     }
 
     /** Quotients and common divisors of whole numbers and of polynomials. */
     private static final class Divider {
-        private final Big scaled = new Big();
         private final Big part = new Big();
         private final Big one = new Big();
         private final Big content = new Big();
         private final Poly rest = new Poly();
+        private int[] divisor = new int[6];
         private Big x = new Big();
         private Big y = new Big();
         private Big z = new Big();
@@ -669,56 +656,74 @@ public final class RootDesk {
             one.assignLong(1);
         }
 
-        /** a = b q + r, q rounded towards 0; all four are different objects. */
+        /** a = b q + r, q rounded towards 0; all four are different objects. By Knuth's long division. */
         void quotient(Big a, Big b, Big q, Big r) {
-            if (b.signum == 0 || Big.rankSizes(a, b) < 0) {
+            int n = b.used;
+            int places = a.used - n;
+            if (n == 0 || places < 0) {
                 q.clear();
                 r.assign(a);
-            } else if (b.used == 1) {
+                return;
+            }
+            if (n == 1) {
                 q.assign(a);
                 r.assignLong(q.divideSmall(b.limbs[0]));
-                r.signum *= a.signum;
-                q.signum *= b.signum;
             } else {
-                longQuotient(a, b, q, r);
-                q.signum = a.signum * b.signum;
-                q.trim();
-                r.signum = a.signum;
+                makeRoom(a.used, n, q, r);
+                int shift = Big.LIMB - Big.bitsOf(b.limbs[n - 1]);
+                shiftInto(divisor, b, shift);
+                shiftInto(r.limbs, a, shift);
+                for (int j = places; j >= 0; j--) {
+                    q.limbs[j] = digit(r.limbs, divisor, n, j);
+                }
+                q.used = places + 1;
+                shiftBack(r.limbs, n, shift);
+                r.used = n;
+                r.signum = 1;
                 r.trim();
+            }
+            q.signum = a.signum * b.signum;
+            q.trim();
+            r.signum *= a.signum;
+        }
+
+        private void makeRoom(int aUsed, int n, Big q, Big r) {
+            if (divisor.length <= n) {
+                divisor = new int[n + n / 2 + 1];
+            }
+            if (r.limbs.length <= aUsed) {
+                r.limbs = new int[aUsed + aUsed / 2 + 1];
+            }
+            if (q.limbs.length <= aUsed - n) {
+                q.limbs = new int[aUsed + 1];
             }
         }
 
-        /** Likewise for b above 0, with q rounded down. */
+        /** So that the divisor's first bit stands at the head of its limb. */
+        private static void shiftInto(int[] z, Big from, int shift) {
+            int below = 0;
+            for (int i = 0; i < from.used; i++) {
+                int v = from.limbs[i];
+                z[i] = v << shift & Big.MASK | below;
+                below = v >>> Big.LIMB - shift;
+            }
+            z[from.used] = below;
+        }
+
+        private static void shiftBack(int[] z, int n, int shift) {
+            for (int i = 0; i < n; i++) {
+                int next = i + 1 < n ? z[i + 1] : 0;
+                z[i] = z[i] >>> shift | next << Big.LIMB - shift & Big.MASK;
+            }
+        }
+
+        /** Likewise for b above 0, but q rounded down. */
         void quotientDown(Big a, Big b, Big q, Big r) {
             quotient(a, b, q, r);
             if (r.signum < 0) {
                 q.minus(q, one);
                 r.plus(r, b);
             }
-        }
-
-        /** Knuth's long division of the sizes; b has two limbs or more, a is not smaller. */
-        private void longQuotient(Big a, Big b, Big q, Big r) {
-            int n = b.used;
-            int shift = Big.LIMB - Big.bitsOf(b.limbs[n - 1]);
-            scaled.assign(b);
-            scaled.shiftUp(shift);
-            r.assign(a);
-            r.signum = 1;
-            r.shiftUp(shift);
-            r.makeRoom(a.used + 1);
-            if (r.used == a.used) {
-                r.limbs[a.used] = 0;
-            }
-            int places = a.used - n;
-            q.makeRoom(places + 1);
-            for (int j = places; j >= 0; j--) {
-                q.limbs[j] = digit(r.limbs, scaled.limbs, n, j);
-            }
-            q.used = places + 1;
-            r.used = n;
-            r.trim();
-            r.shiftDown(shift);
         }
 
         /** The quotient's limb j; what it stands for is taken off u. */
@@ -740,21 +745,15 @@ public final class RootDesk {
                 u[i + j] = d & Big.MASK;
                 carry >>>= Big.LIMB;
             }
-            if (u[j + n] - carry - borrow < 0) {
-                guess--;
-                giveBack(u, v, n, j);
-            }
+            boolean tooMuch = u[j + n] - carry - borrow < 0;
             u[j + n] = 0;
-            return (int) guess;
-        }
-
-        private static void giveBack(int[] u, int[] v, int n, int j) {
-            int carry = 0;
-            for (int i = 0; i < n; i++) {
-                int s = u[i + j] + v[i] + carry;
+            int back = 0;
+            for (int i = 0; i < n && tooMuch; i++) {
+                int s = u[i + j] + v[i] + back;
                 u[i + j] = s & Big.MASK;
-                carry = s >>> Big.LIMB;
+                back = s >>> Big.LIMB;
             }
+            return (int) (tooMuch ? guess - 1 : guess);
         }
 
         /** The greatest common divisor, into out; by Euclid. */
@@ -939,8 +938,9 @@ public final class RootDesk {
     /** Common divisors of polynomials, put together from those modulo primes. */
     private static final class Modular {
         /**
-         * Enough primes for every pair: fewer than 62 can mislead (they divide a resultant below
-         * 2 to the power of 1620, or a leading coefficient), and ten right ones tell all.
+         * Enough primes for every pair: at most 62 can mislead (they divide a resultant below 2 to
+         * the power of 1620 or a leading coefficient below 2 to the power of 136), and with ten
+         * others the lifted coefficients, below 2 to the power of 272, no longer change.
          */
         private static final int[] PRIMES = {
             1073741789, 1073741783, 1073741741, 1073741723, 1073741719, 1073741717, 1073741689, 1073741671,
@@ -969,7 +969,7 @@ public final class RootDesk {
             this.divider = divider;
         }
 
-        /** The greatest common divisor of p and q, both primitive and of degree 1 or more. */
+        /** The greatest common divisor of p and q, both of degree 1 or more, without a factor of its own. */
         void common(Poly p, Poly q, Poly out) {
             Big lead = p.lead().bits() <= q.lead().bits() ? p.lead() : q.lead();
             lifted.deg = TOP + 1;
@@ -989,8 +989,12 @@ public final class RootDesk {
                 if (uDeg < lifted.deg) {
                     restart();
                 }
-                if (!lift(lead.modulo(prime), prime) && accept(p, q, out)) {
-                    return;
+                if (!lift(lead.modulo(prime), prime)) {
+                    out.assign(lifted);
+                    divider.makePrimitive(out);
+                    if (divider.divides(p, out, quotient) && divider.divides(q, out, quotient)) {
+                        return;
+                    }
                 }
             }
             out.assignOne();
@@ -1087,12 +1091,6 @@ public final class RootDesk {
             }
             modulus.timesSmall(prime);
             return changed;
-        }
-
-        private boolean accept(Poly p, Poly q, Poly out) {
-            out.assign(lifted);
-            divider.makePrimitive(out);
-            return divider.divides(p, out, quotient) && divider.divides(q, out, quotient);
         }
     }
 
@@ -1273,20 +1271,29 @@ public final class RootDesk {
                 if (jump < 4 || lack < 4) {
                     halve(x);
                     jump++;
-                } else if (leap(x, Math.min(jump, lack))) {
-                    jump += jump;
                 } else {
-                    jump /= 4;
+                    int bold = Math.min(jump, lack);
+                    guessPart(x, bold);
+                    jump = leap(x, bold) ? jump + jump : jump / 4;
                 }
             }
         }
 
-        /**
-         * Tries to make the interval narrower by 2 to the power of jump at once: near the root the
-         * chord of f tells which of so many equal parts it is in. Whether it was there.
-         */
+        /** Of 2 to the power of jump equal parts: near a root, the chord of f tells the one it is in. */
+        private void guessPart(Real x, int jump) {
+            signOf(x.f, x.lo, x.e);
+            near.assign(value);
+            near.signum = 1;
+            signOf(x.f, x.hi, x.e);
+            far.assign(value);
+            far.signum = 1;
+            far.plus(far, near);
+            near.shiftUp(jump);
+            divider.quotient(near, far, guess, mid);
+        }
+
+        /** Tries to leave of the interval but the part that was guessed, or its neighbour: whether x is there. */
         private boolean leap(Real x, int jump) {
-            guessPart(x, jump);
             gap.minus(x.hi, x.lo);
             mid.times(gap, guess);
             end.assign(x.lo);
@@ -1312,18 +1319,6 @@ public final class RootDesk {
                 x.e = me;
             }
             return atEnd != atMid;
-        }
-
-        private void guessPart(Real x, int jump) {
-            signOf(x.f, x.lo, x.e);
-            near.assign(value);
-            near.signum = 1;
-            signOf(x.f, x.hi, x.e);
-            far.assign(value);
-            far.signum = 1;
-            far.plus(far, near);
-            near.shiftUp(jump);
-            divider.quotient(near, far, guess, mid);
         }
 
         /** Gives x, whose f has degree 1, its first interval. */
@@ -1673,23 +1668,6 @@ public final class RootDesk {
             return other;
         }
 
-        Real sum(Real a, Real b) {
-            blender.blend(a.f, b.f, true, made.f);
-            place(a, b, true);
-            return made;
-        }
-
-        Real product(Real a, Real b) {
-            if (a.side() == 0 || b.side() == 0) {
-                unit.clear();
-                made.becomePoint(unit, 0);
-                return made;
-            }
-            blender.blend(a.f, b.f, false, made.f);
-            place(a, b, false);
-            return made;
-        }
-
         /** Makes f primitive, with each of its roots only once. */
         void dropDoubles(Poly f) {
             divider.makePrimitive(f);
@@ -1703,34 +1681,48 @@ public final class RootDesk {
             }
         }
 
-        /** Finds the root of made's polynomial that a + b (or a b) is. */
-        private void place(Real a, Real b, boolean sum) {
+        /** The sum or the product of a and b. */
+        Real join(Real a, Real b, boolean sum) {
+            if (!sum && (a.side() == 0 || b.side() == 0)) {
+                unit.clear();
+                made.becomePoint(unit, 0);
+                return made;
+            }
+            blender.blend(a.f, b.f, sum, made.f);
             dropDoubles(made.f);
             if (made.f.deg == 1) {
                 narrower.placeLinear(made);
-                return;
+                return made;
             }
             made.exact = false;
-            for (int bits = 6; bits < ENOUGH_BITS; bits += bits) {
+            boolean placed = false;
+            for (int bits = 6; bits < ENOUGH_BITS && !placed; bits += bits) {
                 narrower.narrow(a, bits);
                 narrower.narrow(b, bits);
-                if (sum) {
-                    spanSum(a, b);
-                } else {
-                    spanProduct(a, b);
-                }
-                if (a.exact && b.exact) {
-                    low.assign(made.lo);
-                    made.becomePoint(low, made.e);
-                    return;
-                }
-                coarsen(bits + 2);
-                if (isolator.isAlone(made)) {
-                    made.low = narrower.signOf(made.f, made.lo, made.e);
-                    leaveZero();
-                    return;
-                }
+                placed = isPlaced(a, b, sum, bits);
             }
+            leaveZero();
+            return made;
+        }
+
+        /** Whether a and b are known well enough to tell which of its polynomial's roots made is. */
+        private boolean isPlaced(Real a, Real b, boolean sum, int bits) {
+            if (sum) {
+                spanSum(a, b);
+            } else {
+                spanProduct(a, b);
+            }
+            if (a.exact && b.exact) {
+                low.assign(made.lo);
+                made.becomePoint(low, made.e);
+                return true;
+            }
+            coarsen(bits + 2);
+            if (!isolator.isAlone(made)) {
+                return false;
+            }
+            made.low = narrower.signOf(made.f, made.lo, made.e);
+            return true;
         }
 
         private void spanSum(Real a, Real b) {
