@@ -1683,11 +1683,6 @@ public final class RootDesk {
 
         /** The sum or the product of a and b. */
         Real join(Real a, Real b, boolean sum) {
-            if (!sum && (a.side() == 0 || b.side() == 0)) {
-                unit.clear();
-                made.becomePoint(unit, 0);
-                return made;
-            }
             blender.blend(a.f, b.f, sum, made.f);
             dropDoubles(made.f);
             if (made.f.deg == 1) {

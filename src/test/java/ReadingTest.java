@@ -99,6 +99,13 @@ public final class ReadingTest {
         ranks("close roots", x, 2, 3, -1);
         ranks("the middle", x, 2, 4, -1);
         ranks("the middle", x, 3, 4, 1);
+        // close numbers whose polynomials share another root: (x^2 - 2) (x - 5) and (70 x - 99) (x - 5)
+        root(x, 0, 1, 10, -2, -5, 1);
+        root(x, 1, 0, 495, -449, 70);
+        ranks("99 / 70", x, 1, 0, 1);
+        root(x, 2, 2, 10, -2, -5, 1);
+        root(x, 3, 1, 495, -449, 70);
+        ranks("5", x, 2, 3, 0);
         // square roots of 10 and 11 against those of 5 and 18: 6.4789 and 6.4787
         x.fraction(0, 10, 1);
         x.root(0, 0, 2);

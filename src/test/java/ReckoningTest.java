@@ -124,6 +124,15 @@ public final class ReckoningTest {
         is(x, 4, "-2803600794", 11, 6, 86);
         Check.same("subtract", x.subtract(0, 3, 0), true);
         is(x, 0, "-1080881", 6, 2, 70);
+        // of the four roots that may be meant, two are but 0.001 from one another
+        x.fraction(4, 999999, 1);
+        x.root(4, 4, 2);
+        x.fraction(5, 999998, 1);
+        x.root(5, 5, 2);
+        Check.same("subtract", x.subtract(6, 4, 5), true);
+        is(x, 6, "500000375000437500585938347", 30, 4, 108);
+        Check.same("subtract", x.subtract(6, 5, 4), true);
+        is(x, 6, "-500000375000437500585938348", 30, 4, 108);
     }
 
     private static void promise14Multiply() {
@@ -219,6 +228,10 @@ public final class ReckoningTest {
         x.take(0, 2);
         Check.same("root", x.root(1, 0, 2), true);
         is(x, 1, "1272019649514068964252422461737", 30, 6, 10);
+        x.invert(2, 1);
+        is(x, 2, "786151377757423286069558585842", 30, 6, 10);
+        x.invert(2, 2);
+        Check.same("and back", x.compare(1, 2), 0);
         x.take(0, 0);
         Check.same("of a number below 0", x.root(2, 0, 3), false);
         Check.polynomial(x, -1, -1, 1);
