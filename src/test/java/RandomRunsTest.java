@@ -17,8 +17,10 @@ public final class RandomRunsTest {
     private static final MathContext PLACES = new MathContext(150, RoundingMode.HALF_EVEN);
     private static final BigDecimal NEAR = BigDecimal.ONE.movePointLeft(110);
     private static final int BITS = 500;
-    private static final int RUNS = 120;
+    private static final int RUNS = 160;
     private static final int CALLS = 300;
+    private static final int[] EDGES = {-1000, -999, -1, 0, 0, 0, 1, 999, 1000};
+    private static final int[] PARTS = {1, 2, 10, 1000, 499999, 500000, 999983, 999999, 1000000};
 
     private RandomRunsTest() {
     }
@@ -31,7 +33,7 @@ public final class RandomRunsTest {
             Model m = new Model(known);
             boolean right = true;
             for (int i = 0; i < CALLS && right; i++) {
-                int[] call = choose(random, run % 3);
+                int[] call = choose(random, run % 4);
                 String due = m.answer(call);
                 String got = answer(x, call);
                 right = due.equals(got);
@@ -63,7 +65,8 @@ public final class RandomRunsTest {
             case 12: case 13: case 14: case 15: case 16: case 17:
                 return new int[] {7, to, r.nextInt(5) - (r.nextInt(9) == 0 ? 1 : 0)};
             case 18: case 19:
-                return kind == 1 ? new int[] {8, to, r.nextInt(13) - 6, 1 + r.nextInt(4)}
+                return kind == 3 ? new int[] {8, to, (r.nextInt(3) - 1) * part(r), part(r)}
+                    : kind == 1 ? new int[] {8, to, r.nextInt(13) - 6, 1 + r.nextInt(4)}
                     : new int[] {8, to, r.nextInt(2000100) - 1000050, r.nextInt(1000050)};
             case 20: case 21: case 22:
                 return new int[] {9 + r.nextInt(3), to, a};
@@ -82,6 +85,10 @@ public final class RandomRunsTest {
         }
     }
 
+    private static int part(Random r) {
+        return PARTS[r.nextInt(PARTS.length)];
+    }
+
     private static int slot(Random r) {
         return r.nextInt(200) == 0 ? -1 + 9 * r.nextInt(2) : r.nextInt(8);
     }
@@ -97,6 +104,11 @@ public final class RandomRunsTest {
                 p = q.length > 7 ? p : q;
             } while (r.nextInt(3) != 0);
             System.arraycopy(p, 0, c, 0, p.length);
+        } else if (kind == 3) {
+            int top = 1 + r.nextInt(r.nextBoolean() ? 6 : 2);
+            for (int i = 0; i <= top; i++) {
+                c[i] = EDGES[r.nextInt(EDGES.length)];
+            }
         } else {
             int top = r.nextInt(kind == 0 ? 7 : 4);
             int most = r.nextBoolean() ? 1000 : 9;

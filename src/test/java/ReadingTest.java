@@ -16,11 +16,6 @@ public final class ReadingTest {
         Check.end();
     }
 
-    private static void root(RootDesk x, int to, int i, int... c) {
-        Check.polynomial(x, c);
-        Check.same("take", x.take(to, i), true);
-    }
-
     private static void ranks(String what, RootDesk x, int a, int b, int due) {
         Check.same(what, x.compare(a, b), due);
         Check.same(what + ", the other way", x.compare(b, a), -due);
@@ -28,8 +23,8 @@ public final class ReadingTest {
 
     private static void promise17Compare() {
         RootDesk x = new RootDesk();
-        root(x, 0, 0, -2, 0, 1);
-        root(x, 1, 1, -2, 0, 1);
+        Check.root(x, 0, 0, -2, 0, 1);
+        Check.root(x, 1, 1, -2, 0, 1);
         x.fraction(2, 7, 5);
         x.fraction(3, -7, 5);
         ranks("two roots", x, 0, 1, -1);
@@ -45,15 +40,15 @@ public final class ReadingTest {
 
     private static void promise17SameNumberByAnotherWay() {
         RootDesk x = new RootDesk();
-        root(x, 0, 1, -2, 0, 1);
-        root(x, 1, 1, -3, 0, 1);
+        Check.root(x, 0, 1, -2, 0, 1);
+        Check.root(x, 1, 1, -3, 0, 1);
         x.multiply(2, 0, 1);
-        root(x, 3, 1, -6, 0, 1);
+        Check.root(x, 3, 1, -6, 0, 1);
         ranks("square root of 6", x, 2, 3, 0);
         x.add(2, 0, 1);
-        root(x, 3, 3, 1, 0, -10, 0, 1);
+        Check.root(x, 3, 3, 1, 0, -10, 0, 1);
         ranks("square roots of 2 and 3", x, 2, 3, 0);
-        root(x, 4, 2, 1, 0, -10, 0, 1);
+        Check.root(x, 4, 2, 1, 0, -10, 0, 1);
         ranks("another root", x, 2, 4, 1);
         x.multiply(5, 0, 0);
         x.fraction(6, 2, 1);
@@ -61,50 +56,50 @@ public final class ReadingTest {
         x.copy(5, 0);
         ranks("a copy", x, 5, 0, 0);
         // 1 / 3 as a root among others, as a fraction, and as a cube root
-        root(x, 1, 1, 6, -18, -3, 9);
+        Check.root(x, 1, 1, 6, -18, -3, 9);
         x.fraction(2, 1, 3);
         x.fraction(3, 1, 27);
         x.root(3, 3, 3);
         ranks("1 / 3", x, 1, 2, 0);
         ranks("1 / 3", x, 2, 3, 0);
         ranks("1 / 3", x, 3, 1, 0);
-        root(x, 4, 0, -1, 0, 0, 0, 0, 243);
+        Check.root(x, 4, 0, -1, 0, 0, 0, 0, 243);
         ranks("1 / 3", x, 3, 4, 0);
-        root(x, 4, 0, -1, 3);
+        Check.root(x, 4, 0, -1, 3);
         ranks("1 / 3", x, 4, 3, 0);
         ranks("1 / 3", x, 4, 2, 0);
         // the golden ratio alone, with a third and 7, with the square roots of 2
-        root(x, 5, 1, -1, -1, 1);
-        root(x, 6, 2, -7, 15, 26, -25, 3);
+        Check.root(x, 5, 1, -1, -1, 1);
+        Check.root(x, 6, 2, -7, 15, 26, -25, 3);
         ranks("the golden ratio", x, 5, 6, 0);
-        root(x, 7, 3, 6, 8, -5, -4, -1, 0, 1);
+        Check.root(x, 7, 3, 6, 8, -5, -4, -1, 0, 1);
         ranks("the golden ratio", x, 6, 7, 0);
         ranks("the golden ratio", x, 7, 5, 0);
-        root(x, 7, 2, 6, 8, -5, -4, -1, 0, 1);
+        Check.root(x, 7, 2, 6, 8, -5, -4, -1, 0, 1);
         ranks("the square root of 2", x, 6, 7, 1);
         ranks("the square root of 2", x, 0, 7, 0);
     }
 
     private static void promise17CloseNumbers() {
         RootDesk x = new RootDesk();
-        root(x, 0, 1, -2, 0, 1);
+        Check.root(x, 0, 1, -2, 0, 1);
         x.fraction(1, 665857, 470832);
         ranks("above by 0.000000000002", x, 1, 0, 1);
         x.fraction(1, 275807, 195025);
         ranks("below by 0.000000000009", x, 1, 0, -1);
         // x^6 - 2 (22 x - 1)^2 and the middle of its two close roots
-        root(x, 2, 1, -2, 88, -968, 0, 0, 0, 1);
-        root(x, 3, 2, -2, 88, -968, 0, 0, 0, 1);
+        Check.root(x, 2, 1, -2, 88, -968, 0, 0, 0, 1);
+        Check.root(x, 3, 2, -2, 88, -968, 0, 0, 0, 1);
         x.fraction(4, 1, 22);
         ranks("close roots", x, 2, 3, -1);
         ranks("the middle", x, 2, 4, -1);
         ranks("the middle", x, 3, 4, 1);
         // close numbers whose polynomials share another root: (x^2 - 2) (x - 5) and (70 x - 99) (x - 5)
-        root(x, 0, 1, 10, -2, -5, 1);
-        root(x, 1, 0, 495, -449, 70);
+        Check.root(x, 0, 1, 10, -2, -5, 1);
+        Check.root(x, 1, 0, 495, -449, 70);
         ranks("99 / 70", x, 1, 0, 1);
-        root(x, 2, 2, 10, -2, -5, 1);
-        root(x, 3, 1, 495, -449, 70);
+        Check.root(x, 2, 2, 10, -2, -5, 1);
+        Check.root(x, 3, 1, 495, -449, 70);
         ranks("5", x, 2, 3, 0);
         // square roots of 10 and 11 against those of 5 and 18: 6.4789 and 6.4787
         x.fraction(0, 10, 1);
@@ -127,25 +122,25 @@ public final class ReadingTest {
         Check.same("above", x.sign(0), 1);
         x.fraction(0, -1, 1000000);
         Check.same("below", x.sign(0), -1);
-        root(x, 1, 0, -1, 0, 1000);
-        root(x, 2, 1, -1, 0, 1000);
+        Check.root(x, 1, 0, -1, 0, 1000);
+        Check.root(x, 2, 1, -1, 0, 1000);
         Check.same("below", x.sign(1), -1);
         Check.same("above", x.sign(2), 1);
         x.add(3, 1, 2);
         Check.same("their sum", x.sign(3), 0);
         x.multiply(3, 1, 2);
         Check.same("their product", x.sign(3), -1);
-        root(x, 4, 1, 0, -2, 0, 1);
+        Check.root(x, 4, 1, 0, -2, 0, 1);
         Check.same("the root 0", x.sign(4), 0);
-        root(x, 4, 0, 0, -2, 0, 1);
+        Check.root(x, 4, 0, 0, -2, 0, 1);
         Check.same("the root before", x.sign(4), -1);
-        root(x, 4, 2, 0, -2, 0, 1);
+        Check.root(x, 4, 2, 0, -2, 0, 1);
         Check.same("the root behind", x.sign(4), 1);
     }
 
     private static void promise19Print() {
         RootDesk x = new RootDesk();
-        root(x, 0, 1, -2, 0, 1);
+        Check.root(x, 0, 1, -2, 0, 1);
         Check.same("k = 0", Check.text(x, 0, 0), "1");
         Check.same("k = 1", Check.text(x, 0, 1), "14");
         Check.same("k = 9", Check.text(x, 0, 9), "1414213562");
@@ -167,7 +162,7 @@ public final class ReadingTest {
 
     private static void promise19RoundsDown() {
         RootDesk x = new RootDesk();
-        root(x, 0, 0, -2, 0, 1);
+        Check.root(x, 0, 0, -2, 0, 1);
         Check.same("below 0", Check.text(x, 0, 0), "-2");
         Check.same("below 0", Check.text(x, 0, 9), "-1414213563");
         x.fraction(1, -1, 1000000);
@@ -179,10 +174,10 @@ public final class ReadingTest {
         Check.same("just below 1", Check.text(x, 1, 0), "0");
         Check.same("just below 1", Check.text(x, 1, 5), "99999");
         // whole and decimal numbers that come as roots: 3 and -3 / 10 among roots that are not
-        root(x, 2, 2, -6, 2, 3, -1);
+        Check.root(x, 2, 2, -6, 2, 3, -1);
         Check.same("3", Check.text(x, 2, 0), "3");
         Check.same("3", Check.text(x, 2, 30), "3000000000000000000000000000000");
-        root(x, 2, 1, -6, -20, 3, 10);
+        Check.root(x, 2, 1, -6, -20, 3, 10);
         Check.same("-3 / 10", Check.text(x, 2, 0), "-1");
         Check.same("-3 / 10", Check.text(x, 2, 1), "-3");
         Check.same("-3 / 10", Check.text(x, 2, 2), "-30");

@@ -20,12 +20,6 @@ public final class ReckoningTest {
         Check.end();
     }
 
-    private static void is(RootDesk x, int a, String text, int k, int weight, int size) {
-        Check.same("print", Check.text(x, a, k), text);
-        Check.same("weight of " + text, x.weight(a), weight);
-        Check.same("size of " + text, x.size(a), size);
-    }
-
     /** Square roots of 2 and 3 in slots 0 and 1, cube root of 3 in slot 2, 1 / 3 in slot 3. */
     private static RootDesk desk() {
         RootDesk x = new RootDesk();
@@ -42,18 +36,18 @@ public final class ReckoningTest {
     private static void promise12Add() {
         RootDesk x = desk();
         Check.same("add", x.add(4, 0, 1), true);
-        is(x, 4, "3146264369941972342329135065715", 30, 4, 68);
+        Check.is(x, 4, "3146264369941972342329135065715", 30, 4, 68);
         Check.same("add", x.add(4, 0, 2), true);
-        is(x, 4, "2856463132680503431123327034989", 30, 6, 86);
+        Check.is(x, 4, "2856463132680503431123327034989", 30, 6, 86);
         Check.same("add", x.add(4, 2, 0), true);
-        is(x, 4, "2856463132680503431123327034989", 30, 6, 86);
+        Check.is(x, 4, "2856463132680503431123327034989", 30, 6, 86);
         Check.same("add", x.add(4, 0, 3), true);
-        is(x, 4, "17475468957", 10, 2, 70);
+        Check.is(x, 4, "17475468957", 10, 2, 70);
         Check.same("add", x.add(4, 3, 3), true);
-        is(x, 4, "6666", 4, 1, 53);
+        Check.is(x, 4, "6666", 4, 1, 53);
         x.negate(5, 0);
         Check.same("add", x.add(4, 0, 5), true);
-        is(x, 4, "0", 30, 4, 68);
+        Check.is(x, 4, "0", 30, 4, 68);
         Check.same("sign of a + (-a)", x.sign(4), 0);
         Check.polynomial(x, 1, 0, -10, 0, 1);
         Check.same("add", x.add(4, 0, 1), true);
@@ -63,14 +57,14 @@ public final class ReckoningTest {
     private static void promise12SameSlots() {
         RootDesk x = desk();
         Check.same("add", x.add(0, 0, 0), true);
-        is(x, 0, "28284271247", 10, 4, 68);
+        Check.is(x, 0, "28284271247", 10, 4, 68);
         x.fraction(5, -7, 2);
         Check.same("add", x.add(5, 5, 3), true);
-        is(x, 5, "-3166667", 6, 1, 53);
+        Check.is(x, 5, "-3166667", 6, 1, 53);
         Check.same("add", x.add(5, 3, 5), true);
-        is(x, 5, "-2833334", 6, 1, 86);
+        Check.is(x, 5, "-2833334", 6, 1, 86);
         Check.same("add", x.add(3, 3, 5), true);
-        is(x, 3, "-25", 1, 1, 119);
+        Check.is(x, 3, "-25", 1, 1, 119);
     }
 
     private static void promise12TooGreat() {
@@ -80,33 +74,33 @@ public final class ReckoningTest {
         x.add(4, 0, 1);
         Check.same("weight 8", x.add(7, 4, 0), false);
         Check.same("weight 4, size 142 or more", x.add(7, 4, 3), false);
-        is(x, 7, "555", 3, 1, 20);
+        Check.is(x, 7, "555", 3, 1, 20);
         // sizes that meet the limit just so: 10, 50, 90, 130
         Check.polynomial(x, -1, 1);
         x.take(5, 0);
         Check.same("50", x.add(6, 0, 5), true);
         Check.same("90", x.add(6, 6, 5), true);
         Check.same("130", x.add(6, 6, 5), true);
-        is(x, 6, "44142135", 7, 2, 130);
+        Check.is(x, 6, "44142135", 7, 2, 130);
         Check.same("170", x.add(6, 6, 5), false);
-        is(x, 6, "44142135", 7, 2, 130);
+        Check.is(x, 6, "44142135", 7, 2, 130);
         // of weight 1, the sizes go 20, 43, 66, 89, 112
         x.fraction(4, 1, 1);
         x.add(4, 4, 5);
         x.add(4, 4, 5);
         x.add(4, 4, 5);
         x.add(4, 4, 5);
-        is(x, 4, "5", 0, 1, 112);
+        Check.is(x, 4, "5", 0, 1, 112);
         Check.same("135", x.add(4, 4, 5), false);
         Check.same("1 and 1", x.add(7, 5, 5), true);
-        is(x, 7, "2", 0, 1, 33);
+        Check.is(x, 7, "2", 0, 1, 33);
         // whichever comes first, the same comes out
         Check.polynomial(x, -2, 0, 0, 0, 0, 0, 1);
         x.take(4, 1);
         Check.same("6 and 1", x.add(6, 4, 5), true);
-        is(x, 6, "21224620", 7, 6, 118);
+        Check.is(x, 6, "21224620", 7, 6, 118);
         Check.same("1 and 6", x.add(6, 5, 4), true);
-        is(x, 6, "21224620", 7, 6, 118);
+        Check.is(x, 6, "21224620", 7, 6, 118);
         Check.same("6 and a fraction", x.add(6, 4, 3), false);
         Check.same("6 and 6", x.add(6, 4, 4), false);
     }
@@ -114,69 +108,69 @@ public final class ReckoningTest {
     private static void promise13Subtract() {
         RootDesk x = desk();
         Check.same("subtract", x.subtract(4, 1, 0), true);
-        is(x, 4, "317837245195782244725757617296", 30, 4, 68);
+        Check.is(x, 4, "317837245195782244725757617296", 30, 4, 68);
         Check.same("subtract", x.subtract(4, 0, 1), true);
-        is(x, 4, "-317837245195782244725757617297", 30, 4, 68);
+        Check.is(x, 4, "-317837245195782244725757617297", 30, 4, 68);
         Check.same("subtract", x.subtract(4, 2, 2), false);
         Check.same("subtract", x.subtract(4, 0, 0), true);
-        is(x, 4, "0", 30, 4, 68);
+        Check.is(x, 4, "0", 30, 4, 68);
         Check.same("subtract", x.subtract(4, 0, 2), true);
-        is(x, 4, "-2803600794", 11, 6, 86);
+        Check.is(x, 4, "-2803600794", 11, 6, 86);
         Check.same("subtract", x.subtract(0, 3, 0), true);
-        is(x, 0, "-1080881", 6, 2, 70);
+        Check.is(x, 0, "-1080881", 6, 2, 70);
         // of the four roots that may be meant, two are but 0.001 from one another
         x.fraction(4, 999999, 1);
         x.root(4, 4, 2);
         x.fraction(5, 999998, 1);
         x.root(5, 5, 2);
         Check.same("subtract", x.subtract(6, 4, 5), true);
-        is(x, 6, "500000375000437500585938347", 30, 4, 108);
+        Check.is(x, 6, "500000375000437500585938347", 30, 4, 108);
         Check.same("subtract", x.subtract(6, 5, 4), true);
-        is(x, 6, "-500000375000437500585938348", 30, 4, 108);
+        Check.is(x, 6, "-500000375000437500585938348", 30, 4, 108);
     }
 
     private static void promise14Multiply() {
         RootDesk x = desk();
         Check.same("multiply", x.multiply(4, 0, 1), true);
-        is(x, 4, "2449489742783178098197284074705", 30, 4, 68);
+        Check.is(x, 4, "2449489742783178098197284074705", 30, 4, 68);
         Check.same("multiply", x.multiply(4, 0, 2), true);
-        is(x, 4, "2039648902655", 12, 6, 86);
+        Check.is(x, 4, "2039648902655", 12, 6, 86);
         Check.same("multiply", x.multiply(4, 0, 0), true);
-        is(x, 4, "2000000000000000000000000000000", 30, 4, 68);
+        Check.is(x, 4, "2000000000000000000000000000000", 30, 4, 68);
         x.negate(5, 0);
         Check.same("multiply", x.multiply(4, 5, 0), true);
-        is(x, 4, "-2000000000000000000000000000000", 30, 4, 68);
+        Check.is(x, 4, "-2000000000000000000000000000000", 30, 4, 68);
         Check.same("multiply", x.multiply(4, 5, 5), true);
-        is(x, 4, "2", 0, 4, 68);
+        Check.is(x, 4, "2", 0, 4, 68);
         Check.same("multiply", x.multiply(4, 5, 3), true);
-        is(x, 4, "-4714045208", 10, 2, 70);
+        Check.is(x, 4, "-4714045208", 10, 2, 70);
         Check.same("multiply", x.multiply(4, 6, 1), true);
-        is(x, 4, "0", 30, 2, 70);
+        Check.is(x, 4, "0", 30, 2, 70);
         Check.same("multiply", x.multiply(4, 1, 6), true);
-        is(x, 4, "0", 30, 2, 70);
+        Check.is(x, 4, "0", 30, 2, 70);
         Check.same("multiply", x.multiply(4, 2, 2), false);
-        is(x, 4, "0", 30, 2, 70);
+        Check.is(x, 4, "0", 30, 2, 70);
         Check.same("multiply", x.multiply(3, 3, 3), true);
-        is(x, 3, "111", 3, 1, 53);
+        Check.is(x, 3, "111", 3, 1, 53);
     }
 
     private static void promise15Divide() {
         RootDesk x = desk();
         Check.same("divide", x.divide(4, 1, 0), true);
-        is(x, 4, "1224744871391589049098642037352", 30, 4, 68);
+        Check.is(x, 4, "1224744871391589049098642037352", 30, 4, 68);
         Check.same("divide", x.divide(4, 0, 0), true);
-        is(x, 4, "1000000000000000000000000000000", 30, 4, 68);
+        Check.is(x, 4, "1000000000000000000000000000000", 30, 4, 68);
         x.negate(5, 2);
         Check.same("divide", x.divide(4, 0, 5), true);
-        is(x, 4, "-9805610", 7, 6, 86);
+        Check.is(x, 4, "-9805610", 7, 6, 86);
         Check.same("divide", x.divide(4, 0, 3), true);
-        is(x, 4, "42426406", 7, 2, 70);
+        Check.is(x, 4, "42426406", 7, 2, 70);
         Check.same("divide", x.divide(4, 6, 0), true);
-        is(x, 4, "0", 30, 2, 70);
+        Check.is(x, 4, "0", 30, 2, 70);
         Check.same("divide", x.divide(4, 2, 2), false);
         x.fraction(5, 2, 7);
         Check.same("divide", x.divide(5, 3, 5), true);
-        is(x, 5, "116666", 5, 1, 53);
+        Check.is(x, 5, "116666", 5, 1, 53);
     }
 
     private static void promise15Zero() {
@@ -194,31 +188,31 @@ public final class ReckoningTest {
         RootDesk x = new RootDesk();
         x.fraction(0, 2, 1);
         Check.same("root", x.root(1, 0, 2), true);
-        is(x, 1, "1414213562373095048801688724209", 30, 2, 20);
+        Check.is(x, 1, "1414213562373095048801688724209", 30, 2, 20);
         Check.same("root", x.root(1, 0, 3), true);
-        is(x, 1, "1259921049894873164767210607278", 30, 3, 20);
+        Check.is(x, 1, "1259921049894873164767210607278", 30, 3, 20);
         x.fraction(0, -2, 1);
         Check.same("root", x.root(1, 0, 3), true);
-        is(x, 1, "-1259921049894873164767210607279", 30, 3, 20);
+        Check.is(x, 1, "-1259921049894873164767210607279", 30, 3, 20);
         x.fraction(0, 9, 16);
         Check.same("root", x.root(1, 0, 2), true);
-        is(x, 1, "75", 2, 2, 20);
+        Check.is(x, 1, "75", 2, 2, 20);
         x.fraction(0, -8, 27);
         Check.same("root", x.root(1, 0, 3), true);
-        is(x, 1, "-666667", 6, 3, 20);
+        Check.is(x, 1, "-666667", 6, 3, 20);
         x.fraction(2, -2, 3);
         Check.same("-2 / 3", x.compare(1, 2), 0);
         Check.same("root of 0", x.root(1, 7, 2), true);
-        is(x, 1, "0", 30, 2, 20);
+        Check.is(x, 1, "0", 30, 2, 20);
         Check.same("root of 0", x.root(1, 7, 3), true);
-        is(x, 1, "0", 30, 3, 20);
+        Check.is(x, 1, "0", 30, 3, 20);
         x.fraction(0, 1, 1000000);
         Check.same("into the same slot", x.root(0, 0, 2), true);
-        is(x, 0, "1", 3, 2, 20);
+        Check.is(x, 0, "1", 3, 2, 20);
         Check.same("root of a root", x.root(0, 0, 3), true);
-        is(x, 0, "100000000000000000000000000000", 30, 6, 20);
+        Check.is(x, 0, "100000000000000000000000000000", 30, 6, 20);
         Check.same("no further", x.root(0, 0, 2), false);
-        is(x, 0, "1", 1, 6, 20);
+        Check.is(x, 0, "1", 1, 6, 20);
     }
 
     private static void promise16RootOfIrrational() {
@@ -227,9 +221,9 @@ public final class ReckoningTest {
         Check.polynomial(x, 0, -1, -1, 1);
         x.take(0, 2);
         Check.same("root", x.root(1, 0, 2), true);
-        is(x, 1, "1272019649514068964252422461737", 30, 6, 10);
+        Check.is(x, 1, "1272019649514068964252422461737", 30, 6, 10);
         x.invert(2, 1);
-        is(x, 2, "786151377757423286069558585842", 30, 6, 10);
+        Check.is(x, 2, "786151377757423286069558585842", 30, 6, 10);
         x.invert(2, 2);
         Check.same("and back", x.compare(1, 2), 0);
         x.take(0, 0);
@@ -237,11 +231,11 @@ public final class ReckoningTest {
         Check.polynomial(x, -1, -1, 1);
         x.take(0, 0);
         Check.same("of a number below 0", x.root(2, 0, 3), true);
-        is(x, 2, "-851799643", 9, 6, 10);
+        Check.is(x, 2, "-851799643", 9, 6, 10);
         Check.polynomial(x, 1, -3, 1);
         x.take(3, 1);
         Check.same("root", x.root(3, 3, 2), true);
-        is(x, 3, "1618033988", 9, 4, 10);
+        Check.is(x, 3, "1618033988", 9, 4, 10);
         x.take(4, 0);
         Check.same("root", x.root(4, 4, 2), true);
         Check.same("root of 0.38..", Check.text(x, 4, 9), "618033988");
@@ -257,14 +251,14 @@ public final class ReckoningTest {
             Check.illegal("IllegalArgument goes first, k = " + k, () -> x.root(1, 0, k));
         }
         Check.arithmetic("below 0", () -> x.root(1, 0, 2));
-        is(x, 1, "3", 0, 1, 20);
+        Check.is(x, 1, "3", 0, 1, 20);
         Check.polynomial(x, -2, 0, 0, 0, 0, 0, 1);
         x.take(2, 0);
         Check.arithmetic("Arithmetic goes before a WEIGHT that is too great", () -> x.root(1, 2, 2));
         Check.same("weight 18", x.root(1, 2, 3), false);
         x.negate(2, 2);
         Check.same("weight 12", x.root(1, 2, 2), false);
-        is(x, 1, "3", 0, 1, 20);
+        Check.is(x, 1, "3", 0, 1, 20);
     }
 
     private static void greatestSizes() {
@@ -276,13 +270,13 @@ public final class ReckoningTest {
         Check.same("size", x.size(0), 119);
         x.root(2, 0, 2);
         x.root(2, 2, 3);
-        is(x, 2, "1000002000054001655389832076849", 30, 6, 119);
+        Check.is(x, 2, "1000002000054001655389832076849", 30, 6, 119);
         x.fraction(0, 1, 1000000);
         x.multiply(0, 0, 0);
         x.multiply(0, 0, 0);
         x.invert(1, 0);
-        is(x, 1, "1000000000000000000000000000000000000000000000000000000", 30, 1, 119);
-        is(x, 0, "1000000", 30, 1, 119);
+        Check.is(x, 1, "1000000000000000000000000000000000000000000000000000000", 30, 1, 119);
+        Check.is(x, 0, "1000000", 30, 1, 119);
         // all coefficients as great as they may be
         Check.polynomial(x, -999, 1000, -998, 997, -1000, 999);
         x.take(3, 0);
