@@ -14,6 +14,7 @@ public final class ReadingEdgesTest {
         promise19RoundedDown();
         promise19Minus();
         promise19LongestAndShortest();
+        promise19GreatestSize();
         promise20Character();
         promise20WhatWasPrintedLast();
         Check.end();
@@ -218,7 +219,7 @@ public final class ReadingEdgesTest {
         Check.same("-0.0447", Check.text(x, 3, 2), "-5");
     }
 
-    /** The greatest number that can be made has 25 digits before the point, and 30 behind it are the most. */
+    /** "how many characters": 25 digits before the point for 10^24, 30 behind it at most, and the minus. */
     private static void promise19LongestAndShortest() {
         RootDesk x = new RootDesk();
         Check.tiny(x, 0, 1);
@@ -247,6 +248,33 @@ public final class ReadingEdgesTest {
             x.fraction(1, -1, 1000000);
             Check.same("-0.000001", x.print(1, k), Math.max(2, k - 4));
         }
+    }
+
+    /** A number of SIZE 130 just above 0: a root less two fractions that hardly differ from it; then 1 by it. */
+    private static void promise19GreatestSize() {
+        RootDesk x = new RootDesk();
+        Check.root(x, 0, 1, -686, 991, 648);
+        x.fraction(1, 212053, 921899);
+        x.fraction(2, 266404, 927419);
+        Check.same("subtract", x.subtract(3, 0, 1), true);
+        Check.same("subtract", x.subtract(3, 3, 2), true);
+        Check.is(x, 3, "0", 27, 2, 130);
+        Check.is(x, 3, "8", 28, 2, 130);
+        Check.is(x, 3, "823", 30, 2, 130);
+        Check.same("sign", x.sign(3), 1);
+        x.add(4, 1, 2);
+        Check.same("compare", x.compare(0, 4), 1);
+        Check.same("signAt", x.signAt(4), -1);
+        Check.same("rootsIn", x.rootsIn(4, 0), 1);
+        x.invert(5, 3);
+        Check.is(x, 5, "1214474473251425067622417279390036527089596984669640246174", 30, 2, 130);
+        x.negate(5, 5);
+        Check.is(x, 5, "-1214474473251425067622417279390036527089596984669640246175", 30, 2, 130);
+        Check.arithmetic("square root", () -> x.root(6, 5, 2));
+        Check.same("square root", x.root(6, 3, 2), true);
+        Check.is(x, 6, "28694971949810534", 30, 4, 130);
+        Check.same("cube root", x.root(6, 3, 3), true);
+        Check.is(x, 6, "937282560373843127031", 30, 6, 130);
     }
 
     /** "Character i of what was printed last; NONE if there is none such." */
