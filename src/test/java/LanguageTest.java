@@ -13,33 +13,42 @@ import java.util.regex.Pattern;
 
 /** Rules of LANGUAGE.md that can be seen from outside: the face, and words that the program does without. */
 public final class LanguageTest {
-    private static final String[] FACE = {
-        "add", "character", "coefficient", "compare", "copy", "degree", "divide", "fraction", "invert",
-        "multiply", "negate", "print", "root", "roots", "rootsIn", "sign", "signAt", "size", "subtract",
-        "take", "weight"};
+    private static final String ILLEGAL = " throws IllegalArgumentException";
+    private static final String BOTH = ILLEGAL + ", ArithmeticException";
+
+    /** As the document has them, but without the names of the parameters. */
+    private static final String[] MEMBERS = {
+        "int coefficient(int, int)" + ILLEGAL, "int degree()", "int roots()", "int rootsIn(int, int)" + ILLEGAL,
+        "int signAt(int)" + ILLEGAL, "boolean take(int, int)" + ILLEGAL, "void fraction(int, int, int)" + ILLEGAL,
+        "void copy(int, int)" + ILLEGAL, "void negate(int, int)" + ILLEGAL, "void invert(int, int)" + BOTH,
+        "boolean add(int, int, int)" + ILLEGAL, "boolean subtract(int, int, int)" + ILLEGAL,
+        "boolean multiply(int, int, int)" + ILLEGAL, "boolean divide(int, int, int)" + BOTH,
+        "boolean root(int, int, int)" + BOTH, "int compare(int, int)" + ILLEGAL, "int sign(int)" + ILLEGAL,
+        "int print(int, int)" + ILLEGAL, "int character(int)", "int weight(int)" + ILLEGAL, "int size(int)" + ILLEGAL};
 
     private LanguageTest() {
     }
 
-    public static void main(String[] args) throws IOException {
+    public static void main(String[] args) throws IOException, ReflectiveOperationException {
         face();
         classesInside();
         words();
         Check.end();
     }
 
-    private static void face() {
-        Check.same("final", Modifier.isFinal(RootDesk.class.getModifiers()), true);
+    private static void face() throws ReflectiveOperationException {
+        Check.same("the class", Modifier.toString(RootDesk.class.getModifiers()), "public final");
         Set<String> open = new TreeSet<>();
         for (Method m : RootDesk.class.getDeclaredMethods()) {
             if (Modifier.isPublic(m.getModifiers())) {
-                open.add(m.getName());
+                Check.same(m + " is of an object", Modifier.isStatic(m.getModifiers()), false);
+                open.add(written(m));
             } else {
                 hidden(m);
-                Check.same(m + " has a name of the face", Arrays.asList(FACE).contains(m.getName()), false);
+                notOfTheFace(m);
             }
         }
-        Check.same("the public methods", open.toString(), Arrays.toString(FACE));
+        Check.same("the public methods", open.toString(), new TreeSet<>(Arrays.asList(MEMBERS)).toString());
         for (Constructor<?> c : RootDesk.class.getDeclaredConstructors()) {
             Check.same("constructor", c.toString(), "public RootDesk()");
         }
@@ -47,6 +56,18 @@ public final class LanguageTest {
             if (!f.getName().equals("NONE")) {
                 hidden(f);
             }
+        }
+        Check.same("NONE", RootDesk.class.getField("NONE").toString(), "public static final int RootDesk.NONE");
+        Check.same("NONE", RootDesk.NONE, -1);
+    }
+
+    private static String written(Method m) {
+        return m.toString().replace("public ", "").replace("RootDesk.", "").replace("java.lang.", "").replace(",", ", ");
+    }
+
+    private static void notOfTheFace(Method m) {
+        for (String member : MEMBERS) {
+            Check.same(m + " has a name of the face", member.contains(" " + m.getName() + "("), false);
         }
     }
 
@@ -71,7 +92,7 @@ public final class LanguageTest {
                 Check.fail(c + " has " + fields + " fields");
             }
             for (Method m : c.getDeclaredMethods()) {
-                Check.same(m + " has a name of the face", Arrays.asList(FACE).contains(m.getName()), false);
+                notOfTheFace(m);
                 if (m.getParameterCount() > 7) {
                     Check.fail(m + " has too many parameters");
                 }
