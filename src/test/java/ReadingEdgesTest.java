@@ -9,6 +9,8 @@ public final class ReadingEdgesTest {
     public static void main(String[] args) {
         promise17LessSameGreater();
         promise17NextToOneAnother();
+        promise17AlikeModuloPrimes();
+        promise17PrimeInFront();
         promise18Sign();
         promise19Places();
         promise19RoundedDown();
@@ -78,6 +80,48 @@ public final class ReadingEdgesTest {
         Check.same("the same", x.compare(1, 3), 0);
         x.copy(1, 3);
         inOrder(x, 1);
+    }
+
+    /**
+     * Two fractions whose difference, over both denominators, is the product of the two greatest primes below 2^30:
+     * with these primes, which the program takes first, they look the same, and so do their roots.
+     */
+    private static void promise17AlikeModuloPrimes() {
+        for (int k = 1; k <= 6; k++) {
+            RootDesk x = new RootDesk();
+            Check.product(x, 0, 3, new int[] {389904, 773387}, new int[] {956273, 909005});
+            Check.product(x, 1, 3, new int[] {386803, 841837}, new int[] {943653, 994712});
+            for (int a = 0; a < 2; a++) {
+                Check.same("square root", k % 2 != 0 || x.root(a, a, 2), true);
+                Check.same("cube root", k % 3 != 0 || x.root(a, a, 3), true);
+            }
+            Check.same("less", x.compare(0, 1), -1);
+            Check.same("greater", x.compare(1, 0), 1);
+            x.invert(0, 0);
+            x.invert(1, 1);
+            Check.same("inverted", x.compare(0, 1), 1);
+            x.negate(0, 0);
+            x.negate(1, 1);
+            Check.same("negated", x.compare(0, 1), -1);
+        }
+    }
+
+    /** The greatest prime below 2^30 as a denominator: it is of no use there, and the next ones must do. */
+    private static void promise17PrimeInFront() {
+        RootDesk x = new RootDesk();
+        x.fraction(0, 309984, 999983);
+        x.fraction(1, -308909, 999979);
+        x.add(0, 0, 1);
+        x.invert(0, 0);
+        Check.is(x, 0, "93128721504663352540896", 20, 1, 53);
+        Check.same("multiply", x.multiply(1, 0, 0), true);
+        Check.same("root", x.root(1, 1, 2), true);
+        Check.same("the same", x.compare(0, 1), 0);
+        Check.same("the same", x.compare(1, 0), 0);
+        x.fraction(2, 1, 1000000);
+        Check.same("add", x.add(2, 2, 0), true);
+        Check.same("less", x.compare(1, 2), -1);
+        Check.same("greater", x.compare(2, 1), 1);
     }
 
     private static void inOrder(RootDesk x, int due) {

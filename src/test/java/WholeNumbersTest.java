@@ -1,5 +1,3 @@
-import java.lang.reflect.Constructor;
-import java.lang.reflect.Field;
 import java.lang.reflect.Method;
 import java.math.BigInteger;
 import java.util.Random;
@@ -12,20 +10,11 @@ public final class WholeNumbersTest {
     private static final int LIMB = 30;
     private static final Random RANDOM = new Random(7);
 
-    private final Class<?> big = Class.forName("RootDesk$Big");
-    private final Class<?> dividerClass = Class.forName("RootDesk$Divider");
-    private final Field limbs = big.getDeclaredField("limbs");
-    private final Field used = big.getDeclaredField("used");
-    private final Field signum = big.getDeclaredField("signum");
-    private final Object divider;
+    private final Class<?> big = Inside.BIG;
+    private final Class<?> dividerClass = Inside.DIVIDER;
+    private final Object divider = Inside.make(Inside.DIVIDER);
 
     private WholeNumbersTest() throws ReflectiveOperationException {
-        limbs.setAccessible(true);
-        used.setAccessible(true);
-        signum.setAccessible(true);
-        Constructor<?> c = dividerClass.getDeclaredConstructor();
-        c.setAccessible(true);
-        divider = c.newInstance();
     }
 
     public static void main(String[] args) throws ReflectiveOperationException {
@@ -116,37 +105,15 @@ public final class WholeNumbersTest {
     }
 
     private static Method method(Class<?> c, String name, Class<?>... kinds) throws ReflectiveOperationException {
-        Method m = c.getDeclaredMethod(name, kinds);
-        m.setAccessible(true);
-        return m;
+        return Inside.method(c, name, kinds);
     }
 
-    private Object make(BigInteger v) throws ReflectiveOperationException {
-        Constructor<?> c = big.getDeclaredConstructor();
-        c.setAccessible(true);
-        Object o = c.newInstance();
-        BigInteger size = v.abs();
-        int n = (size.bitLength() + LIMB - 1) / LIMB;
-        int[] row = new int[Math.max(6, n)];
-        for (int i = 0; i < n; i++) {
-            row[i] = size.shiftRight(LIMB * i).intValue() & (1 << LIMB) - 1;
-        }
-        limbs.set(o, row);
-        used.set(o, n);
-        signum.set(o, v.signum());
-        return o;
+    private static Object make(BigInteger v) throws ReflectiveOperationException {
+        return Inside.big(v);
     }
 
-    private void same(String what, Object got, BigInteger due) throws ReflectiveOperationException {
-        int n = (int) used.get(got);
-        int[] row = (int[]) limbs.get(got);
-        BigInteger v = BigInteger.ZERO;
-        for (int i = n - 1; i >= 0; i--) {
-            v = v.shiftLeft(LIMB).add(BigInteger.valueOf(row[i]));
-        }
-        int s = (int) signum.get(got);
-        Check.same(what, (s < 0 ? v.negate() : v).toString(), due.toString());
-        Check.same(what + ", sign", s, due.signum());
-        Check.same(what + ", limbs", n, (due.abs().bitLength() + LIMB - 1) / LIMB);
+    private static void same(String what, Object got, BigInteger due) throws ReflectiveOperationException {
+        Check.same(what, Inside.value(got).toString(), due.toString());
+        Check.same(what + ", limbs", Inside.limbs(got), (due.abs().bitLength() + LIMB - 1) / LIMB);
     }
 }
